@@ -177,16 +177,20 @@ public final class PromiseTests {
         x.multiply(6, 3, 0);
         x.multiply(5, 5, 1);
         due("add mixed before limit", x.add(5, 6, 5), MIXED);
-        // Over a common denominator (k^31 + 1) / (k + 1) reaches the degree 31 only after it is cancelled.
+        // k^31 / ((k + 1) (k + 2)) + 2 / ((k + 1) (k + 3)): the degree is 32 until k + 1 is cancelled.
         x.pole(5, 1, 1);
-        powerOfK(x, 3, 4, 31);
-        x.multiply(6, 3, 5);
-        x.constant(7, 10006);
+        x.pole(6, 2, 1);
+        x.multiply(3, 3, 5);
+        x.multiply(3, 3, 6);
+        x.pole(6, 3, 1);
+        x.constant(7, 2);
+        x.multiply(7, 7, 5);
         x.multiply(7, 7, 6);
-        x.linear(2, 1, 0);
-        x.add(7, 7, 2);
-        due("add is cancelled before it is looked at", x.add(7, 6, 7), 0);
-        dueTerm("add is cancelled before it is looked at", x, 7, 1, new int[] {0, 1}, new int[8]);
+        due("add is cancelled before it is looked at", x.add(7, 3, 7), 0);
+        due("add is cancelled before it is looked at", x.degree(7), 31);
+        due("add is cancelled before it is looked at", x.exponent(7, 1), 0);
+        due("add is cancelled before it is looked at", x.exponent(7, 2), 1);
+        due("add is cancelled before it is looked at", x.exponent(7, 3), 1);
     }
 
     private static void promise7Multiply() {
@@ -243,7 +247,7 @@ public final class PromiseTests {
         x.multiply(3, 1, 2);
         due("multiply by 1", x.multiply(4, 0, 3), 0);
         due("multiply by 1", x.same(4, 0), true);
-        // k^31 * (k / (k + 1)^3) is over; k^31 * ((k + 1) / k) has the degree 31.
+        // k^31 * ((k + 1) / k): the degree is 32 until k is cancelled.
         x.linear(5, 1, 1);
         x.multiply(5, 5, 2);
         due("multiply is cancelled before it is looked at", x.multiply(6, 0, 5), 0);
@@ -301,7 +305,7 @@ public final class PromiseTests {
         dueTerm("difference limit unchanged", x, 6, 1, new int[] {10006}, poles(0, 1, 1, 1));
         due("difference of zero", x.difference(6, 4), 0);
         due("difference of zero", x.degree(6), -1);
-        // k^31 * 2^k / (k + 1): the numerator 2 (k + 1)^32 - k^31 (k + 2) keeps its degree 32.
+        // The difference of k^31 * 2^k has the degree 31, that of k^31 * 2^k / (k + 1) the degree 32.
         powerOfK(x, 0, 1, 31);
         x.power(2, 2);
         x.multiply(0, 0, 2);
