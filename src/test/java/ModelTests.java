@@ -6,8 +6,11 @@ import java.util.Arrays;
  */
 public final class ModelTests {
     private static final int P = TelescopeDesk.P;
-    private static final int RUNS = 60;
-    private static final int CALLS = 512;
+    private static final int RUNS = 150;
+    /** The most calls that a step of a run makes: all weights of a slot. */
+    private static final int STEP = 24;
+    /** How many calls it takes to read all slots. */
+    private static final int READING = 8 * 42;
     /** Places of evaluation, all away from the poles; 62 + 9 * 6 is the highest degree that is interpolated. */
     private static final int PLACES = 130;
     private static final int FIRST = 20;
@@ -36,11 +39,11 @@ public final class ModelTests {
     }
 
     private static void oneRun(int run) {
-        TelescopeDesk desk = new TelescopeDesk();
+        CountedDesk desk = new CountedDesk();
         Term[] slots = new Term[8];
         Arrays.fill(slots, Term.zero());
-        for (int call = 0; call < CALLS && wrong < 20; call++) {
-            String where = "run " + run + " call " + call + ": ";
+        while (desk.calls() + STEP <= CountedDesk.MOST_CALLS && wrong < 20) {
+            String where = "run " + run + " call " + desk.calls() + ": ";
             int kind = pick(10);
             if (kind == 0) {
                 build(where, desk, slots, slot(), pick(5));
@@ -51,14 +54,25 @@ public final class ModelTests {
             } else {
                 read(where, desk, slots);
             }
+            compareSome(where, desk, slots);
+        }
+    }
+
+    /** All slots while the calls of one object last for it, then one of them, as long as they last for that. */
+    private static void compareSome(String where, CountedDesk desk, Term[] slots) {
+        CountedDesk copy = desk.copy();
+        if (copy.calls() + READING <= CountedDesk.MOST_CALLS) {
             for (int s = 0; s < 8; s++) {
-                compare(where, desk, s, slots[s]);
+                compare(where, copy, s, slots[s]);
             }
+        } else if (copy.calls() + READING / 8 <= CountedDesk.MOST_CALLS) {
+            int s = pick(8);
+            compare(where, copy, s, slots[s]);
         }
     }
 
     /** Lets a slot grow by factors and summands, since calls chosen at large mostly end in zero or a constant. */
-    private static void enrich(String where, TelescopeDesk desk, Term[] slots) {
+    private static void enrich(String where, CountedDesk desk, Term[] slots) {
         int into = pick(4);
         if (slots[into].isZero()) {
             build(where, desk, slots, into, 3);
@@ -78,7 +92,7 @@ public final class ModelTests {
         }
     }
 
-    private static void build(String where, TelescopeDesk desk, Term[] slots, int s, int kind) {
+    private static void build(String where, CountedDesk desk, Term[] slots, int s, int kind) {
         int z = RATIOS[pick(RATIOS.length)];
         int b = pick(40) == 0 ? 8 : pick(8);
         int e = pick(40) == 0 ? 4 : 1 + pick(3);
@@ -110,7 +124,7 @@ public final class ModelTests {
         }
     }
 
-    private static void rework(String where, TelescopeDesk desk, Term[] slots) {
+    private static void rework(String where, CountedDesk desk, Term[] slots) {
         int d = pick(3) > 0 ? 4 + pick(2) : slot();
         int a = pick(2) > 0 ? pick(4) : slot();
         int b = slot();
@@ -147,7 +161,7 @@ public final class ModelTests {
         }
     }
 
-    private static void telescope(String where, TelescopeDesk desk, Term[] slots, int d, int r, int a) {
+    private static void telescope(String where, CountedDesk desk, Term[] slots, int d, int r, int a) {
         int got = desk.telescope(d, r, a);
         if (Math.min(d, Math.min(r, a)) < 0 || Math.max(d, Math.max(r, a)) > 7 || d == r) {
             due(where + "telescope", got, TelescopeDesk.BAD);
@@ -163,7 +177,7 @@ public final class ModelTests {
         slots[r] = parts[1];
     }
 
-    private static void read(String where, TelescopeDesk desk, Term[] slots) {
+    private static void read(String where, CountedDesk desk, Term[] slots) {
         int s = pick(2) > 0 ? pick(4) : slot();
         int a = slot();
         boolean bad = s < 0 || s > 7;
@@ -184,7 +198,7 @@ public final class ModelTests {
         }
     }
 
-    private static void weights(String where, TelescopeDesk desk, Term[] slots, int s) {
+    private static void weights(String where, CountedDesk desk, Term[] slots, int s) {
         boolean bad = s < 0 || s > 7;
         long[] want = bad ? new long[24] : slots[s].weights();
         for (int i = 0; i < 24; i++) {
@@ -192,13 +206,14 @@ public final class ModelTests {
         }
     }
 
-    private static void compare(String where, TelescopeDesk desk, int s, Term want) {
-        boolean alike = desk.ratio(s) == want.z && desk.degree(s) == want.n.length - 1;
+    private static void compare(String where, CountedDesk desk, int s, Term want) {
+        int[] seen = desk.read(s);
+        boolean alike = seen[0] == want.z && seen[1] == want.n.length - 1;
         for (int i = 0; i < 32; i++) {
-            alike &= desk.coefficient(s, i) == (i < want.n.length ? want.n[i] : 0);
+            alike &= seen[2 + i] == (i < want.n.length ? want.n[i] : 0);
         }
         for (int b = 0; b < 8; b++) {
-            alike &= desk.exponent(s, b) == want.e[b];
+            alike &= seen[34 + b] == want.e[b];
         }
         if (!alike) {
             wrong++;
