@@ -21,6 +21,7 @@ public final class ModelTests {
     private static final int[] answers = new int[10];
 
     public static void main(String[] args) {
+        Watch.start(() -> "the runs beside the model");
         for (int run = 0; run < RUNS; run++) {
             oneRun(run);
         }

@@ -14,7 +14,7 @@ abstract class SentenceTests {
     static final int HELPER = 6;
     static final int OTHER_HELPER = 7;
 
-    private static String sentence = "";
+    private static volatile String sentence = "";
     private static int sentences = 0;
     private static int asked = 0;
     private static int wrong = 0;
@@ -49,6 +49,9 @@ abstract class SentenceTests {
     }
 
     static void test(String words, Runnable body) {
+        if (sentences == 0) {
+            Watch.start(() -> sentence);
+        }
         sentence = words;
         sentences++;
         asked = 0;
